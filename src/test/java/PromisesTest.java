@@ -71,6 +71,10 @@ public final class PromisesTest {
     due("wall(3)", x.wall(3), 7);
     due("nothing else told", x.digest(), hash(3, 0, 0, 0, 1, 0, 0, 0, 0, 0, 1, 0, 2, 0, 0));
     due("wall leaves no undo", x.undo(), -3);
+    x.cord(2, 1, 5, -1);
+    x.sight(2, 20);
+    due("told again", x.digest(),
+        hash(3, 1, 0, 1, 1, 0, 0, 0, 0, 0, 1, 0, 2, 2, 1, 5, -1, 0, 0, 2, 20));
     due("an image outlives wall", x.from(1), 1);
     due("with its drawers", x.count(0), 7);
     refused("wall", x, 4, 1, 0);
@@ -144,6 +148,7 @@ public final class PromisesTest {
     due("what 2", x.put(2, 1), -2);
     due("what -1", x.put(-1, 1), -2);
     due("digest", x.digest(), hash(2, 0, 0, 0, 0, 0, 0, 0, 0, 0, 1, 0, 1));
+    refused("put", x, 4, 0, 0);
   }
 
   private static void orders() {
@@ -195,6 +200,8 @@ public final class PromisesTest {
     due("too early behind blanks", readOf(x, "drawers 2 "), -10 - 10);
     due("no end", readOf(x, "drawers 2"), -10 - 9);
     due("no word", readOf(x, "drawer 2;"), -10);
+    due("another word", readOf(x, "drawers 2;hood 0 0;"), -10 - 10);
+    due("a word to its z", readOf(x, "drawers 2;catchz0;"), -10 - 10);
     due("a longer word", readOf(x, "drawerss 2;"), -10);
     due("letters run on", readOf(x, "drawers 2;catchd 1;"), -10 - 10);
     due("drawers again", readOf(x, "drawers 2;drawers 2;"), -10 - 10);
@@ -260,6 +267,7 @@ public final class PromisesTest {
     due("a cord of a cord is not drawn", x.pull(0), 4);
     due("cut at 2", x.pull(0), 8);
     due("in, the cord as told", x.pull(0), 6);
+    refused("pull", x, 2, 0, 0);
   }
 
   private static void undoing() {
@@ -324,6 +332,7 @@ public final class PromisesTest {
     due("heavy, the pulled one went in", moved(3, 1, 2, 0), 3);
     due("heavy, less", moved(3, -1, 6, 0), 1 + 3);
     due("ratchet, out", moved(4, 1, 3, 0), 1 + 6);
+    due("ratchet, nothing", moved(4, -1, 3, 0), 1 + 3);
     due("ratchet, in", moved(4, 1, 2 + 6, 0), 6);
     due("ratchet, less, out", moved(4, -2, 6, 0), 1 + 6);
     due("ratchet, less, in", moved(4, -2, 2, 0), 6);
@@ -360,6 +369,7 @@ public final class PromisesTest {
     due("out(2)", x.out(2), 2);
     due("out(3)", x.out(3), -2);
     due("out(-1)", x.out(-1), -2);
+    refused("out", x, 2, 0, 0);
   }
 
   private static void pullRows() {
@@ -448,6 +458,19 @@ public final class PromisesTest {
     due("stuck", x.reach(0), 1);
     due("itself", x.reach(1), 1);
     due("itself, told", x.reach(2), 8);
+    refused("reach", x, 2, 0, 0);
+    DrawerWall y = wallOf(2);
+    due("two drawers", y.reach(0), 9);
+    y.image(0);
+    due("read", readOf(y, "drawers 2;cord 0 1 0 2;cord 1 0 0 2;"), 3);
+    due("as read", y.reach(0), 6);
+    y.image(1);
+    y.from(0);
+    due("as in image 0", y.reach(0), 9);
+    y.from(1);
+    due("as in image 1", y.reach(0), 6);
+    y.wall(3);
+    due("as on the new wall", y.reach(0), 27);
   }
 
   private static void keepings() {
@@ -526,6 +549,20 @@ public final class PromisesTest {
     due("9 cords", y.tie(), 20);
     y.cord(0, 2, 0, 2);
     due("none may be added to 10", y.tie(), -1);
+    DrawerWall z = wallOf(2);
+    z.caught(0, true);
+    z.cord(0, 1, 0, 2);
+    z.cord(1, 0, 0, -2);
+    // by 0: 1,2 and 0 is stopped; by 1: 0,0; were 1 drawn in behind it, 0 could be pulled again
+    due("0 can not be open", z.pulls(1, 0, -1), -1);
+    due("from 0 to 1, by -1", z.tie(), 10);
+    DrawerWall w = wallOf(2);
+    w.pull(0);
+    w.pull(0);
+    w.caught(0, true);
+    w.cord(0, 1, 0, 2);
+    w.cord(1, 0, 0, -2);
+    due("0 is open now", w.tie(), -1);
   }
 
   private static void days() {
@@ -563,6 +600,22 @@ public final class PromisesTest {
     z.cord(2, 0, 1, 2);
     // now a pull of 2 opens 0 at once: the first order takes one; then 1: two more
     due("the fewest", z.day(0), 3);
+    refused("day", x, 2, 0, 0);
+    DrawerWall v = wallOf(3);
+    v.good(1, 5);
+    v.good(2, 5);
+    v.cord(0, 2, 0, 2);
+    v.cord(2, 1, 0, 2);
+    v.order(5);
+    v.order(0);
+    // 2 is open by a pull of 0, 1 by one of 2: the lesser DRAWER, though its ROW is the later one
+    due("the least drawer, then 0", v.day(0), 3);
+    DrawerWall u = wallOf(3);
+    u.cord(0, 2, 0, 2);
+    u.cord(1, 2, 0, 2);
+    u.order(2);
+    u.order(0);
+    due("by the first row: 0 is half out", u.day(0), 2);
   }
 
   private static void layings() {
@@ -590,6 +643,19 @@ public final class PromisesTest {
     z.order(1);
     z.order(5);
     due("nothing to gain", z.laid(), -1);
+    DrawerWall w = wallOf(3);
+    w.caught(1, true);
+    w.cord(1, 0, 0, 2);
+    w.cord(0, 1, 0, -2);
+    w.order(1);
+    due("1 can never be open", w.day(1), 0);
+    w.order(2);
+    due("1 in 0 serves both, 1 in 2 one", w.laid(), 1);
+    w.none(0);
+    w.order(1);
+    w.order(0);
+    due("1 in 0 serves one, 1 in 2 both", w.laid(), 12);
+    due("nothing was laid", w.day(1), 0);
   }
 
   private static void dangers() {
@@ -612,6 +678,7 @@ public final class PromisesTest {
     due("state 27", x.danger(27), -2);
     due("state -1", x.danger(-1), -2);
     due("state MAX", x.danger(MAX), -2);
+    refused("danger", x, 3, 0, 0);
   }
 
   private static void sightings() {
@@ -641,6 +708,9 @@ public final class PromisesTest {
     due("no sights", x.none(1), 1);
     due("none left", x.none(1), 0);
     due("digest", x.digest(), hash(2, 0, 0, 0, 0, 0, 0, 0, 0, 0, 1, 0, 0));
+    due("told again", x.sight(1, 6), 0);
+    due("digest", x.digest(), hash(2, 0, 0, 1, 0, 0, 0, 0, 0, 0, 1, 0, 0, 1, 6));
+    refused("none", x, 2, 0, 0);
   }
 
   private static void fittings() {
