@@ -1,4 +1,7 @@
-/** An apothecary's wall of drawers on cords: what a pull does, and what follows from it. */
+/**
+ * An apothecary's wall of drawers on cords, as ../shared/DOC.md tells it. It runs where nothing may
+ * be thrown: a call that can not be answered is refused by a number.
+ */
 public final class DrawerWall {
   public static final int NONE = -1, BAD = -2, NO = -3, FULL = -4;
 
@@ -36,25 +39,25 @@ public final class DrawerWall {
 
   public int wall(int n) {
     walk.forget();
-    return told(wall.tellDrawers(n));
+    return counted(wall.tellDrawers(n));
   }
 
   public int cord(int from, int to, int kind, int v) {
     walk.forget();
-    return told(wall.tellCord(from, to, kind, v));
+    return counted(wall.tellCord(from, to, kind, v));
   }
 
   public int caught(int drawer, boolean is) {
     walk.forget();
-    return told(wall.tellCatch(drawer, is));
+    return counted(wall.tellCatch(drawer, is));
   }
 
   public int good(int drawer, int g) {
-    return told(wall.tellGoods(drawer, g));
+    return counted(wall.tellGoods(drawer, g));
   }
 
   public int put(int what, int bits) {
-    if (what < 0 || what > 1 || bits < 0 || bits >= GOODS_SETS) return told(BAD);
+    if (what < 0 || what > 1 || bits < 0 || bits >= GOODS_SETS) return counted(BAD);
     int old = what == 0 ? wall.poison : wall.food;
     if (what == 0) wall.poison = bits;
     else wall.food = bits;
@@ -62,12 +65,12 @@ public final class DrawerWall {
   }
 
   public int order(int g) {
-    return told(wall.tellOrder(g));
+    return counted(wall.tellOrder(g));
   }
 
   public int type(long v, int n) {
-    if (n < 1 || n > 8) return told(BAD);
-    if (text.size() + n > TEXT_BYTES) return told(FULL);
+    if (n < 1 || n > 8) return counted(BAD);
+    if (text.size() + n > TEXT_BYTES) return counted(FULL);
     for (int i = n - 1; i >= 0; i--) text.add((int) (v >>> (8 * i)) & 255);
     return text.size();
   }
@@ -91,25 +94,25 @@ public final class DrawerWall {
   // ---- pulls
 
   public int pull(int drawer) {
-    if (!wall.hasDrawer(drawer)) return told(BAD);
+    if (!wall.hasDrawer(drawer)) return counted(BAD);
     wall.remember();
     wall.now = wall.after(wall.now, drawer, ALL_CORDS);
     return wall.now;
   }
 
   public int undo() {
-    if (wall.past.size() == 0) return told(NO);
+    if (wall.past.size() == 0) return counted(NO);
     wall.now = wall.past.takeLast();
     return wall.now;
   }
 
   public int behind(int state, int drawer) {
-    if (!wall.hasState(state) || !wall.hasDrawer(drawer)) return told(BAD);
+    if (!wall.hasState(state) || !wall.hasDrawer(drawer)) return counted(BAD);
     return wall.after(state, drawer, ALL_CORDS);
   }
 
   public int out(int drawer) {
-    if (!wall.hasDrawer(drawer)) return told(BAD);
+    if (!wall.hasDrawer(drawer)) return counted(BAD);
     return outIn(wall.now, drawer);
   }
 
@@ -124,31 +127,31 @@ public final class DrawerWall {
   }
 
   public int reach(int what) {
-    if (what < 0 || what > 2) return told(BAD);
+    if (what < 0 || what > 2) return counted(BAD);
     walk.learn(wall);
-    int many = reached();
+    int many = walkFromNow();
     if (what == 0) return many;
     return what == 1 ? walk.jams() : walk.leastJam();
   }
 
   public int kept() {
     walk.learn(wall);
-    reached();
+    walkFromNow();
     witnesses.drop();
     for (int w = 1; w < wall.states(); w++) {
-      if (isSame(w)) return w;
+      if (isSumKept(w)) return w;
     }
     return NONE;
   }
 
   public int cut() {
     walk.learn(wall);
-    int most = reached();
+    int most = walkFromNow();
     int best = NONE;
     for (int c = 0; c < wall.cordFrom.size(); c++) {
       int from = wall.cordFrom.at(c);
       walk.learnDrawer(wall, from, ~(1 << c));
-      int many = reached();
+      int many = walkFromNow();
       walk.learnDrawer(wall, from, ALL_CORDS);
       if (many > most) {
         most = many;
@@ -161,13 +164,13 @@ public final class DrawerWall {
   public int tie() {
     if (wall.cordFrom.isFull()) return NONE;
     walk.learn(wall);
-    int most = openedWith(NONE, NONE, 0);
+    int most = openableWith(NONE, NONE, 0);
     int best = NONE;
     // once all can be opened, no later cord can be better
     for (int from = 0; from < wall.drawers && most < wall.drawers; from++) {
       for (int to = 0; to < wall.drawers; to++) {
         for (int v = 1; v >= -1 && from != to; v -= 2) {
-          int many = openedWith(from, to, v);
+          int many = openableWith(from, to, v);
           if (many > most) {
             most = many;
             best = 100 * from + 10 * to + Math.max(0, v);
@@ -182,7 +185,7 @@ public final class DrawerWall {
   // ---- goods, sights
 
   public int day(int what) {
-    if (what < 0 || what > 1) return told(BAD);
+    if (what < 0 || what > 1) return counted(BAD);
     walk.learn(wall);
     today.run(wall, walk, 0, 0);
     return what == 0 ? today.pulls : today.served;
@@ -206,20 +209,20 @@ public final class DrawerWall {
   }
 
   public int danger(int state) {
-    if (!wall.hasState(state)) return told(BAD);
+    if (!wall.hasState(state)) return counted(BAD);
     return wall.isDanger(state) ? 1 : 0;
   }
 
   public int sight(int drawer, int state) {
-    if (!wall.hasDrawer(drawer) || !wall.hasState(state)) return told(BAD);
-    if (wall.sightDrawers.isFull()) return told(FULL);
+    if (!wall.hasDrawer(drawer) || !wall.hasState(state)) return counted(BAD);
+    if (wall.sightDrawers.isFull()) return counted(FULL);
     wall.sightDrawers.add(drawer);
     wall.sightStates.add(state);
     return wall.sightDrawers.size() - 1;
   }
 
   public int none(int what) {
-    if (what < 0 || what > 1) return told(BAD);
+    if (what < 0 || what > 1) return counted(BAD);
     int had = what == 0 ? wall.orders.size() : wall.sightDrawers.size();
     if (what == 0) {
       wall.orders.drop();
@@ -231,23 +234,23 @@ public final class DrawerWall {
   }
 
   public int fits(int what) {
-    if (what < 0 || what > 1) return told(BAD);
+    if (what < 0 || what > 1) return counted(BAD);
     int sets = 1 << wall.cordFrom.size();
     int many = 0;
     int least = NONE;
     for (int set = 0; set < sets; set++) {
-      if (!wall.isSeenBy(set)) continue;
+      if (!wall.areSightsSo(set)) continue;
       if (many == 0) least = set;
       many++;
     }
     if (what == 0) return many;
-    return many == 0 ? told(NO) : least;
+    return many == 0 ? counted(NO) : least;
   }
 
   // ---- what there is
 
   public int image(int i) {
-    if (i < 0 || i >= IMAGES) return told(BAD);
+    if (i < 0 || i >= IMAGES) return counted(BAD);
     imageAt(i).copyFrom(wall);
     if (i == 0) isZeroKept = true;
     else isOneKept = true;
@@ -255,9 +258,9 @@ public final class DrawerWall {
   }
 
   public int from(int i) {
-    if (i < 0 || i >= IMAGES) return told(BAD);
+    if (i < 0 || i >= IMAGES) return counted(BAD);
     boolean isKept = i == 0 ? isZeroKept : isOneKept;
-    if (!isKept) return told(NO);
+    if (!isKept) return counted(NO);
     wall.copyFrom(imageAt(i));
     walk.forget();
     return 1;
@@ -267,12 +270,12 @@ public final class DrawerWall {
     if (what == 0) return refusedBad;
     if (what == 1) return refusedNo;
     if (what == 2) return refusedFull;
-    told(BAD);
+    counted(BAD);
     return NONE;
   }
 
   public int count(int what) {
-    if (what < 0 || what >= COUNTS) return told(BAD);
+    if (what < 0 || what >= COUNTS) return counted(BAD);
     return countOf(what);
   }
 
@@ -301,8 +304,8 @@ public final class DrawerWall {
 
   // ---- what the calls share
 
-  /** Counts an answer that is a refusal, and hands it on. */
-  private int told(int answer) {
+  /** Every answer that may be a refusal goes through here, so that STATUS misses none. */
+  private int counted(int answer) {
     if (answer == BAD) refusedBad++;
     if (answer == NO) refusedNo++;
     if (answer == FULL) refusedFull++;
@@ -325,23 +328,22 @@ public final class DrawerWall {
     return i == 0 ? imageZero : imageOne;
   }
 
-  /** Walks to all STATES from the one now: how many. */
-  private int reached() {
+  private int walkFromNow() {
     walk.begin();
     walk.spread(wall.now);
     return walk.found.size();
   }
 
-  /** How many DRAWERS can be open at some time, with one more CORD (from NONE: without). */
-  private int openedWith(int from, int to, int v) {
+  /** The wall as it is (from NONE) is measured in the same way as with a CORD, to compare them. */
+  private int openableWith(int from, int to, int v) {
     walk.tied(from, to, v);
-    reached();
+    walkFromNow();
     return Integer.bitCount(walk.everOpen());
   }
 
   private int pullOf(int open, int shut, int i, boolean isSafe) {
     if (!wall.hasSet(open) || !wall.hasSet(shut) || (open & shut) != 0 || i < NONE) {
-      told(BAD);
+      counted(BAD);
       return BAD_SETS;
     }
     walk.begin();
@@ -353,8 +355,7 @@ public final class DrawerWall {
     return i < many ? walk.pulledAt(goal, i) : NOT_SO_MANY;
   }
 
-  /** Whether the sum by the numbers w is the same in all STATES walked to. */
-  private boolean isSame(int w) {
+  private boolean isSumKept(int w) {
     int due = sumOf(w, wall.now);
     // a STATE that once told against some numbers tells against most others at once
     for (int i = 0; i < witnesses.size(); i++) {
@@ -394,34 +395,36 @@ public final class DrawerWall {
     return rest % PARTS;
   }
 
-  /** The STATE in which a DRAWER is moved by so much, cut where it ends. */
   private static int moved(int state, int drawer, int by) {
     int was = outIn(state, drawer);
     int is = Math.max(SHUT, Math.min(OPEN, was + by));
     return state + (is - was) * power(drawer);
   }
 
-  /** The DRAWERS, as bits, that are out by just so much. */
-  private static int drawersOut(int state, int by) {
-    int bits = 0;
+  // a set of DRAWERS is a number with a bit for each, as callers tell it: no object is made for it
+
+  private static int drawersOutBy(int state, int by) {
+    int set = 0;
     int rest = state;
     for (int d = 0; d < MOST_DRAWERS; d++) {
-      if (rest % PARTS == by) bits |= 1 << d;
+      if (rest % PARTS == by) set |= 1 << d;
       rest /= PARTS;
     }
-    return bits;
+    return set;
   }
 
-  /** The DRAWERS, as bits, that are beside some of these. */
-  private static int beside(int bits) {
-    return bits << 1 | bits >> 1;
+  private static int drawersBeside(int set) {
+    return set << 1 | set >> 1;
   }
 
   private static boolean isOpenBeside(int state, int drawer) {
-    return (beside(1 << drawer) & drawersOut(state, OPEN)) != 0;
+    return (drawersBeside(1 << drawer) & drawersOutBy(state, OPEN)) != 0;
   }
 
-  /** Numbers in a row of fixed room; an index outside it reads 0 and writes nothing. */
+  /**
+   * An array behind tests of every index, so that no caller can make the machine throw: outside it
+   * there is 0 to read, and what is written is lost. Its room is made once, for all calls share it.
+   */
   private static final class Row {
     private final int[] cells;
     private int size = 0;
@@ -482,7 +485,7 @@ public final class DrawerWall {
     }
   }
 
-  /** What is told of a wall, how it is now, and the PULLS that may be undone. */
+  /** All that an IMAGE keeps stands together here, so that keeping one can forget nothing. */
   private static final class Wall {
     private int drawers = 0;
     private int now = 0;
@@ -585,34 +588,33 @@ public final class DrawerWall {
       return state >= 0 && state < power(drawers);
     }
 
-    boolean hasSet(int bits) {
-      return bits >= 0 && bits < 1 << drawers;
+    boolean hasSet(int set) {
+      return set >= 0 && set < 1 << drawers;
     }
 
     boolean hasCatch(int drawer) {
       return (catches >> drawer & 1) == 1;
     }
 
-    /** Keeps the STATE now for undoing; the oldest goes when there are too many. */
+    /** Only so many PULLS may be undone: the oldest gives way. */
     void remember() {
       if (past.isFull()) past.dropFirst();
       past.add(now);
     }
 
-    /** The STATE behind a PULL, were there only the CORDS of these bits. */
-    int after(int state, int drawer, int cords) {
+    /** CUT and FITS ask what a PULL does with some CORDS alone: hence their bits. */
+    int after(int state, int drawer, int cordSet) {
       if (hasCatch(drawer) && isOpenBeside(state, drawer)) return state;
       boolean goesOut = outIn(state, drawer) != OPEN;
       int then = moved(state, drawer, goesOut ? 1 : -OPEN);
       for (int c = 0; c < cordFrom.size(); c++) {
-        boolean isDrawn = (cords >> c & 1) == 1 && cordFrom.at(c) == drawer;
-        if (isDrawn) then = moved(then, cordTo.at(c), amount(c, then, goesOut));
+        boolean isDrawn = (cordSet >> c & 1) == 1 && cordFrom.at(c) == drawer;
+        if (isDrawn) then = moved(then, cordTo.at(c), amountOf(c, then, goesOut));
       }
       return then;
     }
 
-    /** By how much a CORD moves the other DRAWER. */
-    private int amount(int c, int state, boolean goesOut) {
+    private int amountOf(int c, int state, boolean goesOut) {
       int v = cordBy.at(c);
       int to = cordTo.at(c);
       int crossed = goesOut ? v : -v;
@@ -627,33 +629,34 @@ public final class DrawerWall {
       }
     }
 
-    /** The DRAWERS, as bits, whose GOODS are of these. */
-    int drawersWith(int goodsBits) {
-      int bits = 0;
+    int drawersHolding(int goodsSet) {
+      int set = 0;
       for (int d = 0; d < drawers; d++) {
-        if ((goodsBits >> goods.at(d) & 1) == 1) bits |= 1 << d;
+        if ((goodsSet >> goods.at(d) & 1) == 1) set |= 1 << d;
       }
-      return bits;
+      return set;
     }
 
     boolean isDanger(int state) {
-      int poisoned = drawersWith(poison) & drawersOut(state, OPEN);
-      int eaten = drawersWith(food) & ~drawersOut(state, SHUT);
-      return (beside(poisoned) & eaten) != 0;
+      int poisoned = drawersHolding(poison) & drawersOutBy(state, OPEN);
+      int eaten = drawersHolding(food) & ~drawersOutBy(state, SHUT);
+      return (drawersBeside(poisoned) & eaten) != 0;
     }
 
-    /** Whether all SIGHTS are so, were there only the CORDS of these bits. */
-    boolean isSeenBy(int cords) {
+    boolean areSightsSo(int cordSet) {
       int state = 0;
       for (int s = 0; s < sightDrawers.size(); s++) {
-        if (after(state, sightDrawers.at(s), cords) != sightStates.at(s)) return false;
+        if (after(state, sightDrawers.at(s), cordSet) != sightStates.at(s)) return false;
         state = sightStates.at(s);
       }
       return true;
     }
   }
 
-  /** All STATES behind PULLS from one of them, nearest first, by the first of fewest PULLS. */
+  /**
+   * Goes out from a STATE breadth first, DRAWERS rising: then the first way found to a STATE is the
+   * first ROW of the fewest PULLS, and nothing has to be compared.
+   */
   private static final class Walk {
     private static final int UNSEEN = -1, BARRED = -2;
 
@@ -675,7 +678,7 @@ public final class DrawerWall {
       by.fill(MOST_STATES, 0);
     }
 
-    /** What each PULL does, kept until DRAWERS, CORDS or CATCHES are told. */
+    /** A walk asks for the same PULLS many times: they are tabled until the wall is told anew. */
     void learn(Wall wall) {
       if (isLearned) return;
       isLearned = true;
@@ -688,13 +691,13 @@ public final class DrawerWall {
       isLearned = false;
     }
 
-    void learnDrawer(Wall wall, int drawer, int cords) {
+    void learnDrawer(Wall wall, int drawer, int cordSet) {
       for (int s = 0; s < states; s++) {
-        steps.set(drawer * MOST_STATES + s, wall.after(s, drawer, cords));
+        steps.set(drawer * MOST_STATES + s, wall.after(s, drawer, cordSet));
       }
     }
 
-    /** One more CORD, behind all others, of the plain KIND; from NONE: none. */
+    /** TIE tries many CORDS: each is laid over the table, which stays (from NONE: no CORD). */
     void tied(int from, int to, int v) {
       tiedFrom = from;
       tiedTo = to;
@@ -724,7 +727,6 @@ public final class DrawerWall {
       for (int i = 0; i < found.size() && i < states; i++) grow(found.at(i));
     }
 
-    /** Finds what is behind one PULL of a STATE that was found. */
     private void grow(int state) {
       for (int d = 0; d < drawers; d++) meet(step(state, d), state, d);
     }
@@ -737,19 +739,18 @@ public final class DrawerWall {
       found.add(state);
     }
 
-    /** The first STATE behind a start in which these are open and those shut; NONE. */
     int firstWith(int start, int open, int shut) {
       meet(start, NONE, NONE);
       for (int i = 0; i < found.size() && i < states; i++) {
         int state = found.at(i);
-        boolean areOpen = (drawersOut(state, OPEN) & open) == open;
-        if (areOpen && (drawersOut(state, SHUT) & shut) == shut) return state;
+        boolean areOpen = (drawersOutBy(state, OPEN) & open) == open;
+        if (areOpen && (drawersOutBy(state, SHUT) & shut) == shut) return state;
         grow(state);
       }
       return NONE;
     }
 
-    /** The STATE at the end of the ROW to the least of the nearest of these DRAWERS; NONE. */
+    /** Of DRAWERS as near as one another the least counts: all STATES as near are looked at. */
     int nearestOpen(int start, int holders) {
       int best = NONE;
       int bestDrawer = MOST_DRAWERS;
@@ -758,7 +759,7 @@ public final class DrawerWall {
         int state = found.at(i);
         // when the first one so far is looked at, all others so far have been found
         if (best != NONE && far.at(state) > far.at(best)) break;
-        int open = drawersOut(state, OPEN) & holders;
+        int open = drawersOutBy(state, OPEN) & holders;
         int drawer = Integer.numberOfTrailingZeros(open);
         if (open != 0 && drawer < bestDrawer) {
           best = state;
@@ -769,8 +770,8 @@ public final class DrawerWall {
       return best;
     }
 
-    /** The DRAWER of the i-th PULL of the ROW to a STATE that was found. */
     int pulledAt(int state, int i) {
+      // a STATE knows only the PULL that led to it, so the ROW is gone back from its end
       int at = state;
       for (int k = far.at(state) - 1; k > i; k--) at = ahead.at(at);
       return by.at(at);
@@ -778,7 +779,7 @@ public final class DrawerWall {
 
     int everOpen() {
       int bits = 0;
-      for (int i = 0; i < found.size(); i++) bits |= drawersOut(found.at(i), OPEN);
+      for (int i = 0; i < found.size(); i++) bits |= drawersOutBy(found.at(i), OPEN);
       return bits;
     }
 
@@ -805,18 +806,18 @@ public final class DrawerWall {
     }
   }
 
-  /** A day's ORDERS, served from all shut: how many, by how many PULLS. */
+  /** A DAY's two numbers stand together, for LAID compares days by both. */
   private static final class Day {
     private int served = 0;
     private int pulls = 0;
 
-    /** Serves the ORDERS, the GOODS of two DRAWERS changed (a DRAWER with itself: none). */
+    /** The GOODS of a and b are changed in thought only; a alike b is the DAY as it is. */
     void run(Wall wall, Walk walk, int a, int b) {
       served = 0;
       pulls = 0;
       int state = 0;
       for (int o = 0; o < wall.orders.size(); o++) {
-        int holders = exchanged(wall.drawersWith(1 << wall.orders.at(o)), a, b);
+        int holders = exchanged(wall.drawersHolding(1 << wall.orders.at(o)), a, b);
         walk.begin();
         state = walk.nearestOpen(state, holders);
         if (state == NONE) return;
@@ -825,9 +826,9 @@ public final class DrawerWall {
       }
     }
 
-    private static int exchanged(int bits, int a, int b) {
-      boolean areAlike = (bits >> a & 1) == (bits >> b & 1);
-      return areAlike ? bits : bits ^ (1 << a | 1 << b);
+    private static int exchanged(int set, int a, int b) {
+      boolean areAlike = (set >> a & 1) == (set >> b & 1);
+      return areAlike ? set : set ^ (1 << a | 1 << b);
     }
 
     boolean isBetterThan(Day that) {
@@ -841,7 +842,7 @@ public final class DrawerWall {
     }
   }
 
-  /** Reads THE TEXT into ITEMS, first for a FAULT, then onto a wall. */
+  /** A FAULT far behind keeps the first ITEM from being told: so all is read ahead of telling. */
   private static final class Reader {
     private static final int END = 0, WRONG = 1, NUMBER = 2, MINUS = 3, STOP = 4;
     private static final int DRAWERS = 5, CORD = 6, CATCH = 7, GOOD = 8, ORDER = 9;
@@ -857,7 +858,6 @@ public final class DrawerWall {
       return cells.size() / ITEM_CELLS;
     }
 
-    /** The place of the FAULT; NONE. */
     int faultIn(Row text) {
       bytes.copyFrom(text);
       cells.drop();
@@ -871,7 +871,6 @@ public final class DrawerWall {
       return place;
     }
 
-    /** Takes the ITEM of a word, up to its end: whether each TOKEN can stand there. */
     private boolean takeItem(int word) {
       int due = numbersOf(word);
       cells.add(word);
@@ -896,7 +895,6 @@ public final class DrawerWall {
       return word == GOOD ? 2 : 1;
     }
 
-    /** Goes on to the next TOKEN. */
     private void scan() {
       for (int i = next; i < bytes.size() && bytes.at(i) == ' '; i++) next = i + 1;
       place = next;
@@ -942,7 +940,6 @@ public final class DrawerWall {
       return b >= '0' && b <= '9';
     }
 
-    /** Tells the ITEMS to a wall: the number of the first that is refused; NONE. */
     int refusedBy(Wall wall) {
       for (int i = 0; i < items(); i++) {
         int answer = tell(wall, i * ITEM_CELLS);
